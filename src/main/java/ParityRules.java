@@ -45,7 +45,7 @@ public final class ParityRules {
             return NOT_POSSIBLE;
         }
         int before = now.choices;
-        history.record(now);
+        history.remember(now);
         now.choices = many;
         verdict.judge(now);
         return before;
@@ -58,7 +58,7 @@ public final class ParityRules {
         if (now.many >= MOST_RULES) {
             return TOO_MANY;
         }
-        history.record(now);
+        history.remember(now);
         now.append(set, sum);
         verdict.judge(now);
         return verdict.states[now.many - 1];
@@ -68,7 +68,7 @@ public final class ParityRules {
         if (!now.hasPlace(rule)) {
             return NO_SUCH;
         }
-        history.record(now);
+        history.remember(now);
         now.takeOut(rule);
         verdict.judge(now);
         return now.many;
@@ -78,7 +78,7 @@ public final class ParityRules {
         if (!now.hasPlace(rule) || !now.hasPlace(place)) {
             return NO_SUCH;
         }
-        history.record(now);
+        history.remember(now);
         System.arraycopy(verdict.states, 0, statesBefore, 0, MOST_RULES);
         // The old states travel with their rules, so that each rule is compared with itself.
         carry(statesBefore, rule, place);
@@ -97,7 +97,7 @@ public final class ParityRules {
         if (!now.hasPlace(rule)) {
             return NO_SUCH;
         }
-        history.record(now);
+        history.remember(now);
         now.sums[rule] = 1 - now.sums[rule];
         verdict.judge(now);
         return verdict.states[rule];
@@ -113,7 +113,7 @@ public final class ParityRules {
         if (now.many + padRules.many > MOST_RULES) {
             return TOO_MANY;
         }
-        history.record(now);
+        history.remember(now);
         for (int i = 0; i < padRules.many; i++) {
             now.append(padRules.sets[i], padRules.sums[i]);
         }
@@ -258,7 +258,7 @@ public final class ParityRules {
             return TOO_MANY;
         }
         for (int i = many - 1; i >= 0; i--) {
-            pad.append((char) (characters >>> 8 * i & 255));
+            pad.append((char) ((characters >>> (8 * i)) & 255));
         }
         return pad.length;
     }
@@ -300,7 +300,7 @@ public final class ParityRules {
         if (!saved[slot]) {
             return NOT_POSSIBLE;
         }
-        history.record(now);
+        history.remember(now);
         now.become(slots[slot]);
         verdict.judge(now);
         return now.many;
@@ -333,7 +333,7 @@ public final class ParityRules {
 
     /** The place of the lowest bit of a number that is not 0. */
     private static int lowestBit(int bits) {
-        return Integer.bitCount(~bits & bits - 1);
+        return Integer.bitCount(~bits & (bits - 1));
     }
 
     private static void carry(int[] row, int from, int to) {
@@ -498,23 +498,22 @@ public final class ParityRules {
         }
 
         int boundTo(int choice) {
-            int open = (1 << choices) - 1 & ~settled();
             int own = 1 << choice;
-            if ((open & own) == 0) {
+            if (sumOf(own) != NONE) {
                 return 0;
             }
             int found = 0;
             for (int c = 0; c < choices; c++) {
-                int other = 1 << c;
-                if (c != choice && (open & other) != 0 && sumOf(own | other) != NONE) {
-                    found |= other;
+                // This one is open: where the sum of both is known, the other one is open, too.
+                if (c != choice && sumOf(own | 1 << c) != NONE) {
+                    found |= 1 << c;
                 }
             }
             return found;
         }
 
         int answers() {
-            return 1 << choices - tally[KEPT];
+            return 1 << (choices - tally[KEPT]);
         }
 
         /** The free choices, read from above, are the bits of the place: so the answers ascend. */
@@ -715,7 +714,7 @@ public final class ParityRules {
             }
         }
 
-        void record(Row row) {
+        void remember(Row row) {
             if (many >= MOST_PAST) {
                 dropOldest();
             }

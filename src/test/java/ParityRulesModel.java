@@ -514,7 +514,7 @@ public final class ParityRulesModel {
 
     private static String text(Model m) {
         if (below(4) == 0) {
-            String signs = "0123456789+=;0=1;10+11=1+0/:<~";
+            String signs = "0123456789+=;0=1;10+11=1+0/:<~!";
             String text = "";
             for (int i = below(4); i >= 0; i--) {
                 text += signs.charAt(below(signs.length()));

@@ -6,6 +6,9 @@ public final class ParityRulesPromises {
     private static final int KEPT = 0, FOLLOWS = 1, AGAINST = 2;
     private static final int LOW = Integer.MIN_VALUE, HIGH = Integer.MAX_VALUE;
 
+    private static final String ROW_OF_TWENTY =
+        "0=0;0=0;0=0;0=0;0=0;0=0;0=0;0=0;0=0;0=0;0=0;0=0;0=0;0=0;0=0;0=0;0=0;0=0;0=0;0=1";
+
     private static int wrong = 0;
     private static String part = "";
 
@@ -136,9 +139,13 @@ public final class ParityRulesPromises {
         x.drop(1);
         due("no rule has it now", x.choices(2), 3);
         due("answers", x.count(4), 2);
+        x = with(4, "3=1;0=1");
+        due("the first rule has it", x.choices(3), NOT_POSSIBLE);
+        x.drop(0);
+        due("no rule has it now", x.choices(2), 4);
         due("choices 11", x.choices(11), 2);
         due("answers", x.count(4), 1024);
-        due("the new choices are free", x.answer(1023), 2046);
+        due("the new choices are free", x.answer(1023), 2047);
     }
 
     private static void tell() {
@@ -191,6 +198,11 @@ public final class ParityRulesPromises {
         due("drop 0", x.drop(0), 0);
         due("drop 0", x.drop(0), NO_SUCH);
         due("recorded", x.count(8), 6);
+        x = with(6, ROW_OF_TWENTY);
+        due("the last one of twenty", x.drop(19), 19);
+        due("the first one of nineteen", x.drop(0), 18);
+        due("another is kept for it", x.rule(0, 2), KEPT);
+        due("there is room again", x.tell(2, 0), KEPT);
     }
 
     private static void move() {
@@ -217,6 +229,10 @@ public final class ParityRulesPromises {
         same("rules", rules(x), "3 1=1:0 1=1:1 1=0:2");
         due("from the end to the front", x.move(2, 0), 3);
         same("rules", rules(x), "3 1=0:0 1=1:2 1=1:2");
+        x = with(6, ROW_OF_TWENTY);
+        due("the last one of twenty", x.move(19, 0), 20);
+        due("the first one of twenty", x.move(0, 19), 20);
+        due("a place behind the twenty", x.move(0, 20), NO_SUCH);
         x = new ParityRules();
         due("without rules", x.move(0, 0), NO_SUCH);
     }
@@ -315,6 +331,8 @@ public final class ParityRulesPromises {
         x.move(2, 0);
         due("only rules ahead count", x.rule(2, 3), 3);
         due("what was followed is kept", x.rule(1, 2), KEPT);
+        x = with(3, "0+1=0;1=0;0+2=0;0+2=1");
+        due("the combination is made of no more rules", x.rule(3, 3), 4);
         x = with(12, "0=0;0=0;0=0;0=0;0=0;0=0;0=0;0=0;0=0;0=0;0=0;0=0;0=0;0=0;0=0;0=0;0=0;0=0;1=1;1=0");
         due("a high place in a reason", x.rule(19, 3), 1 << 18);
         due("in many reasons", x.rule(0, 4), 17);
@@ -413,7 +431,7 @@ public final class ParityRulesPromises {
     private static void nearest() {
         part = "promise 13";
         ParityRules x = with(4, "0+3=1;1+2+3=0");
-        int[][] want = {{0, 1, 1}, {1, 1, 0}, {6, 7, 1}, {8, 10, 1}, {13, 12, 1}, {15, 7, 1}, {2, 10, 1}, {4, 12, 1}, {9, 1, 1}};
+        int[][] want = {{0, 1, 1}, {1, 1, 0}, {6, 7, 1}, {8, 10, 1}, {13, 12, 1}, {15, 7, 1}, {2, 10, 1}, {4, 12, 1}, {9, 1, 1}, {3, 1, 1}};
         for (int[] each : want) {
             due("nearest " + each[0], x.nearest(each[0], 0), each[1]);
             due("how near " + each[0], x.nearest(each[0], 1), each[2]);
@@ -428,6 +446,10 @@ public final class ParityRulesPromises {
         x = with(12, "0=1;1=1;2=1;3=1;4=1;5=1;6=1;7=1;8=1;9=1;10=1;11=1");
         due("far", x.nearest(0, 0), 4095);
         due("how far", x.nearest(0, 1), 12);
+        x = with(12, "");
+        due("all are answers", x.nearest(4095, 0), 4095);
+        due("all are answers", x.nearest(2730, 0), 2730);
+        due("all are answers", x.nearest(2730, 1), 0);
         x = with(3, "0+1+2=1");
         due("the lowest of three", x.nearest(0, 0), 1);
         due("the lowest of three", x.nearest(6, 0), 2);
@@ -450,6 +472,13 @@ public final class ParityRulesPromises {
         due("best", x.best(0), 1);
         due("best", x.best(1), 1);
         due("best", x.best(2), 12);
+        x.turn(0);
+        x.drop(2);
+        due("after changes", x.best(0), 4);
+        due("after changes", x.best(1), 0);
+        due("after changes", x.best(2), 4);
+        x.turn(1);
+        due("after changes", x.best(0), 0);
         x = with(12, "0+11=1;11=1;10=1;0=0");
         due("best", x.best(0), 3072);
         due("best", x.best(1), 0);
@@ -470,7 +499,7 @@ public final class ParityRulesPromises {
             due("ifTold " + each[0] + " " + each[1], x.ifTold(each[0], each[1]), BAD_VALUE);
         }
         same("nothing changes", all(x), before);
-        x = with(4, "0=0;0=0;0=0;0=0;0=0;0=0;0=0;0=0;0=0;0=0;0=0;0=0;0=0;0=0;0=0;0=0;0=0;0=0;0=0;0=0");
+        x = with(4, ROW_OF_TWENTY);
         due("twenty rules", x.count(0), 20);
         due("ifTold", x.ifTold(1, 0), FOLLOWS);
         due("ifTold", x.ifTold(1, 1), AGAINST);
@@ -604,7 +633,7 @@ public final class ParityRulesPromises {
         states[1] = rules(x);
         x.tell(64, 1);
         states[2] = rules(x);
-        put(x, "0=1;1=1");
+        put(x, "6=1;6=0");
         x.read();
         states[3] = rules(x);
         x.move(0, 2);
@@ -644,6 +673,7 @@ public final class ParityRulesPromises {
         due("only changes are recorded", x.count(8), 1);
         due("undo", x.undo(), 0);
         same("the state", rules(x), states[2]);
+        due("answers", x.count(4), 64);
         due("an undone state is judged", x.known(64), 1);
     }
 
