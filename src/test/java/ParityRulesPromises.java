@@ -1,86 +1,9 @@
 import java.lang.reflect.Modifier;
 
 /** The promises of the document one by one: ordinary inputs, the edges it names, and wrong inputs. */
-public final class ParityRulesPromises {
-    private static final int NO_SUCH = -1, BAD_VALUE = -2, BAD_TEXT = -3, TOO_MANY = -4, NOT_POSSIBLE = -5, NONE = -6;
-    private static final int KEPT = 0, FOLLOWS = 1, AGAINST = 2;
-    private static final int LOW = Integer.MIN_VALUE, HIGH = Integer.MAX_VALUE;
-
+public final class ParityRulesPromises extends Checks {
     private static final String ROW_OF_TWENTY =
         "0=0;0=0;0=0;0=0;0=0;0=0;0=0;0=0;0=0;0=0;0=0;0=0;0=0;0=0;0=0;0=0;0=0;0=0;0=0;0=1";
-
-    private static int wrong = 0;
-    private static String part = "";
-
-    private static void due(String call, long got, long want) {
-        if (got != want) {
-            wrong++;
-            System.out.println(part + ": " + call + " answered " + got + ", due is " + want);
-        }
-    }
-
-    private static void same(String call, String got, String want) {
-        if (!got.equals(want)) {
-            wrong++;
-            System.out.println(part + ": " + call + ": " + got + ", due is " + want);
-        }
-    }
-
-    /** Everything that the object tells without a change. */
-    private static String all(ParityRules x) {
-        StringBuilder text = new StringBuilder();
-        for (int what = 0; what <= 8; what++) {
-            text.append(x.count(what)).append(' ');
-        }
-        for (int rule = 0; rule < x.count(0); rule++) {
-            text.append('|');
-            for (int what = 0; what <= 5; what++) {
-                text.append(x.rule(rule, what)).append(' ');
-            }
-        }
-        return text.append('|').append(x.fault()).toString();
-    }
-
-    /** All but the pad and the history. */
-    private static String rules(ParityRules x) {
-        StringBuilder text = new StringBuilder();
-        text.append(x.count(6));
-        for (int rule = 0; rule < x.count(0); rule++) {
-            text.append(' ').append(x.rule(rule, 0)).append('=').append(x.rule(rule, 1)).append(':').append(x.rule(rule, 2));
-        }
-        return text.toString();
-    }
-
-    private static long pack(String text) {
-        long characters = 0;
-        for (int i = 0; i < text.length(); i++) {
-            characters = characters << 8 | text.charAt(i);
-        }
-        return characters;
-    }
-
-    private static int put(ParityRules x, String text) {
-        int answer = x.count(7);
-        for (int i = 0; i < text.length(); i += 8) {
-            answer = x.put(pack(text.substring(i, Math.min(i + 8, text.length()))));
-        }
-        return answer;
-    }
-
-    private static ParityRules with(int choices, String text) {
-        ParityRules x = new ParityRules();
-        x.choices(choices);
-        put(x, text);
-        x.read();
-        return x;
-    }
-
-    private static void fault(String text, int want) {
-        ParityRules x = new ParityRules();
-        put(x, text);
-        due("fault of " + text, x.fault(), want);
-        due("fault of " + text + " again", x.fault(), want);
-    }
 
     private static void constants() {
         part = "constants";
@@ -743,9 +666,6 @@ public final class ParityRulesPromises {
         faults();
         undo();
         saving();
-        System.out.println(wrong == 0 ? "all answers are as due" : wrong + " answers are not as due");
-        if (wrong != 0) {
-            System.exit(1);
-        }
+        finish();
     }
 }
