@@ -13,14 +13,14 @@ final class AskEdges extends Checks {
     }
 
     @Edge(in = RULE, says = "0 its set,")
-    static void lowestAndHighestSet() {
+    static void lowestAndHighestSetOfRules() {
         ParityRules x = with(12, "0=0;0+1+2+3+4+5+6+7+8+9+10+11=0");
         due("the lowest", x.rule(0, 0), 1);
         due("the highest", x.rule(1, 0), 4095);
     }
 
     @Edge(in = RULE, says = "1 its sum,")
-    static void bothSums() {
+    static void bothSumsOfRules() {
         ParityRules x = with(12, "0=0;1=1");
         due("0", x.rule(0, 1), 0);
         due("1", x.rule(1, 1), 1);

@@ -30,7 +30,7 @@ final class TermEdges extends Checks {
     }
 
     @Edge(in = FACE, says = "public static final int NO_SUCH = -1, BAD_VALUE = -2, BAD_TEXT = -3, TOO_MANY = -4, NOT_POSSIBLE = -5, NONE = -6;")
-    static void codes() {
+    static void errorCodes() {
         due("NO_SUCH", ParityRules.NO_SUCH, -1);
         due("BAD_VALUE", ParityRules.BAD_VALUE, -2);
         due("BAD_TEXT", ParityRules.BAD_TEXT, -3);

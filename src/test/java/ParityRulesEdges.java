@@ -79,7 +79,9 @@ public final class ParityRulesEdges extends Checks {
     }
 
     public static void main(String[] args) throws IOException {
-        Map<String, String> document = sections();
+        // The answers are due even where the document is not at hand to compare the sentences with.
+        boolean documented = Files.exists(DOCUMENT);
+        Map<String, String> document = documented ? sections() : Map.of();
         Map<String, BitSet> tested = new HashMap<>();
         int tests = 0;
         for (Class<?> some : TESTS) {
@@ -88,13 +90,15 @@ public final class ParityRulesEdges extends Checks {
             for (Method test : methods) {
                 if (test.isAnnotationPresent(Edge.class)) {
                     tests++;
-                    find(test.getAnnotation(Edge.class), document, tested);
+                    if (documented) {
+                        find(test.getAnnotation(Edge.class), document, tested);
+                    }
                     run(test);
                 }
             }
         }
         findUntested(document, tested);
-        System.out.println(tests + " sentences tested");
+        System.out.println(tests + " sentences tested" + (documented ? "" : ", without a look at " + DOCUMENT));
         finish();
     }
 }
